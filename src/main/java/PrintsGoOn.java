@@ -558,7 +558,11 @@ public final class PrintsGoOn {
         }
 
         boolean expect(int sign) {
-            return accept(sign) || refuse(at);
+            if (next() != sign) {
+                return refuse(at);
+            }
+            at++;
+            return true;
         }
 
         boolean refuse(int place) {
@@ -1095,29 +1099,36 @@ public final class PrintsGoOn {
         }
 
         private static int joined(int op, int one, int other) {
+            long number;
             switch (op) {
                 case PLUS:
-                    return within((long) one + other);
+                    number = (long) one + other;
+                    break;
                 case MINUS:
-                    return within((long) one - other);
+                    number = (long) one - other;
+                    break;
                 case TIMES:
-                    return within((long) one * other);
+                    number = (long) one * other;
+                    break;
                 case BY:
-                    return other == 0 ? 0 : one / other;
+                    number = other == 0 ? 0 : one / other;
+                    break;
                 case EQUAL:
-                    return one == other ? 1 : 0;
+                    number = one == other ? 1 : 0;
+                    break;
                 case LESS:
-                    return one < other ? 1 : 0;
+                    number = one < other ? 1 : 0;
+                    break;
                 case MORE:
-                    return one > other ? 1 : 0;
+                    number = one > other ? 1 : 0;
+                    break;
                 case AND:
-                    return one & other;
+                    number = one & other;
+                    break;
                 default:
-                    return one | other;
+                    number = one | other;
+                    break;
             }
-        }
-
-        private static int within(long number) {
             if (number > BOUND) {
                 return BOUND;
             }
@@ -1539,7 +1550,14 @@ public final class PrintsGoOn {
         }
 
         void takeStep(Scene scene, int goer) {
-            int look = law == null ? plainLook(scene, goer) : lawfulLook(scene, goer);
+            int look = scene.v[Scene.LOOK + goer];
+            int right = look + 1 & 3;
+            int ahead = liesAhead(scene, goer, look);
+            if (law != null) {
+                look = lawfulLook(scene, goer, ahead, liesAhead(scene, goer, right));
+            } else if (ahead == Scene.CLOSED) {
+                look = right;
+            }
             scene.v[Scene.LOOK + goer] = look;
             int lies = liesAhead(scene, goer, look);
             if (lies == Scene.CLOSED) {
@@ -1554,20 +1572,15 @@ public final class PrintsGoOn {
             }
         }
 
-        private int plainLook(Scene scene, int goer) {
-            int look = scene.v[Scene.LOOK + goer];
-            return liesAhead(scene, goer, look) == Scene.CLOSED ? look + 1 & 3 : look;
-        }
-
-        private int lawfulLook(Scene scene, int goer) {
+        private int lawfulLook(Scene scene, int goer, int ahead, int right) {
             int look = scene.v[Scene.LOOK + goer];
             letters[0] = look;
-            letters[1] = liesAhead(scene, goer, look);
-            letters[2] = liesAhead(scene, goer, look + 1 & 3);
+            letters[1] = ahead;
+            letters[2] = right;
             letters[3] = scene.v[Scene.PACE + goer];
             letters[4] = scene.v[Scene.WENT + goer] % 100;
             letters[5] = scene.v[Scene.HOUR] % 24;
-            return law == null ? look : law.worth(letters, stack) & 3;
+            return law == null ? look : Math.floorMod(law.worth(letters, stack), 4);
         }
 
         /** Marks the cell as looked at: a rock elsewhere could not have changed this step. */
