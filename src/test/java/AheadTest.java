@@ -55,6 +55,12 @@ public final class AheadTest {
         CHECKS.due("23: on one cell, and in an hour again", now.meet(0, 1), 1);
         PrintsGoOn late = Checks.shore("sw2h2;r01;r1;g;gx1y1b1", "y:t=3?1;y:b");
         CHECKS.due("23: by walls, never", late.meet(0, 1), -1);
+        PrintsGoOn last = Checks.shore("sw2h2;g;gx0y1p2", "y:p=2?2;y:n=98?2;y:n/2*2=n?1;y:3");
+        CHECKS.due("23: to and fro, then down: in 99", last.meet(0, 1), 99);
+        PrintsGoOn later = Checks.shore("sw2h2;g;gx1y1p2", "y:p=2?2;y:n=99?2;y:n/2*2=n?1;y:3");
+        CHECKS.due("23: in 100 it is not told", later.meet(0, 1), -1);
+        later.hour();
+        CHECKS.due("23: an hour on it is", later.meet(0, 1), 99);
     }
 
     private static void ends() {
@@ -101,6 +107,8 @@ public final class AheadTest {
         PrintsGoOn stay = Checks.shore("g", "y:0");
         stay.hour();
         CHECKS.due("25: it stays and looks up", stay.again(0), 1);
+        PrintsGoOn last = Checks.shore("sw2h2;r00;r10;gb2", "y:n=98?2;y:n/2*2=n?1;y:3");
+        CHECKS.due("25: to and fro, then it looks down: in 99", last.again(0), 99);
     }
 
     private static void way() {
@@ -271,6 +279,8 @@ public final class AheadTest {
         PrintsGoOn one = Checks.shore("sw6h5;gx2y2");
         one.seen(0, 1, 16);
         CHECKS.due("30: of several the least", one.ask(0), 1);
+        PrintsGoOn last = Checks.shore("g", "y:t=5&n=0?1;y:t=5&n=1&p=1?1;y:0");
+        CHECKS.due("30: pace 1 goes on in the 30th hour alone", last.ask(0), 30);
     }
 
     private static void games() {

@@ -67,6 +67,10 @@ public final class FaultTest {
         fault(0, "r3333339", 7);
         fault(0, "sw6;r333333;g", -1);
         fault(0, "r;s;g;s", 6);
+        fault(0, "r;r;r;r;r;r", 10);
+        fault(0, "sh6;g", 2);
+        fault(0, "st6;g", 2);
+        fault(0, "sc100;g", 4);
         fault(0, "g;g;g;g", -1);
         fault(0, "g;g;g;g;r;g", 10);
         fault(0, "s;r;r;r;r;r;g;g;g;g;g", 20);
