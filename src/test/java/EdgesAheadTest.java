@@ -34,6 +34,7 @@ public final class EdgesAheadTest {
         crowds();
         facing();
         next();
+        theLastOfFour();
         EDGES.end();
     }
 
@@ -358,6 +359,7 @@ public final class EdgesAheadTest {
         stones(later, 20, 0, NONE);
         EDGES.says("(of several the least number so told: 100 times the lower one and the other; of one its number)");
         stones(Checks.shore("sw5h2;r;r11111;g;gx4b3", "y:b"), 2, 1, 1);
+        stones(Checks.shore("sw3h2;r001;r101;gx1b3p1;gx1y1b0p2", "y:p=2?2;y:n=0?3;y:b=3&a=1?1;y:2"), 3, 1, 0);
         stones(Checks.shore("sw5h2;r00000;r11111;gb1;gx4b3;gx1b1", "y:b"), 2, 1, 2);
         stones(Checks.shore("sw4h3;r1;gy1b1;gx3y2b3p4", "y:p=1?b;y:n<1?0;y:1"), 20, 1, 5);
         String law = "y:p=2?2;y:p=3?3;y:p=4?1;y:b=1&a=1?2;y:b=2&a=1?1;y:b";
@@ -745,6 +747,7 @@ public final class EdgesAheadTest {
         EDGES.due("none", prints.all(7), 0);
         EDGES.due("nowhere", prints.all(8), 0);
         PrintsGoOn first = Checks.shore("g;gx1;gx1;gx2");
+        EDGES.due("one", Checks.shore("g").all(7), 1);
         EDGES.due("two", first.all(7), 2);
         EDGES.due("the first three cells", first.all(8), 7);
     }
@@ -793,5 +796,32 @@ public final class EdgesAheadTest {
             EDGES.refused("goer " + out, gone, () -> gone.ahead(out), NONE);
         }
         EDGES.refused("no shore", new PrintsGoOn(), () -> new PrintsGoOn().ahead(0), NONE);
+    }
+
+    /** What holds of the first holds of the last: each is asked about with others in its way. */
+    private static void theLastOfFour() {
+        EDGES.says("ODDS of a GOER for a CELL");
+        PrintsGoOn prints = Checks.shore("sw6h5;gx4y3b3;gx2y1b2;gx5y4;gx2y3b1p2");
+        EDGES.due("as it looks", prints.odds(3, 22, 1, 30), 700000000);
+        EDGES.due("turned: down, then to the left of the edge", prints.odds(3, 25, 1, 30), 300000000);
+        EDGES.due("where it is", prints.odds(3, 20, 0, 30), 1000000000);
+        EDGES.says("AGAIN of a GOER");
+        PrintsGoOn again = Checks.shore("sw2h2;r01;r1;g;g;gx1y1;gx1y1b3", "y:p=1?0");
+        EDGES.due("it looks up from then on", again.again(3), NONE);
+        again.hour();
+        EDGES.due("so it does now", again.goer(3, 1), 2);
+        EDGES.due("it met the other one, and again in an hour", again.again(3), 1);
+        EDGES.says("FITS of a GOER");
+        PrintsGoOn fits = Checks.shore("sw6h5;gx3y2b3;gx3y2b3;gx3y2b3;gx2y2b0p4");
+        fits.seen(3, 0, 14);
+        fits.seen(3, 1, 16);
+        EDGES.due("two to the right, through the others", fits.fits(3, -1), 1);
+        EDGES.due("so", fits.fits(3, 0), 21);
+        fits.seen(3, 2, 17);
+        EDGES.due("right, then at the edge down: not there", fits.fits(3, -1), 0);
+        EDGES.due("nothing is told of the first", fits.fits(0, -1), 16);
+        PrintsGoOn alone = Checks.shore("sw6h5;gx4y0b3;gx2y0b3");
+        alone.seen(1, 2, 4);
+        EDGES.due("the first is not in its way", alone.fits(1, 0), 10);
     }
 }

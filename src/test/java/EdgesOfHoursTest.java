@@ -22,6 +22,7 @@ public final class EdgesOfHoursTest {
         sweeping();
         anew();
         anewAndRocks();
+        anewOfEach();
         coins();
         undone();
         undoneInFull();
@@ -468,6 +469,40 @@ public final class EdgesOfHoursTest {
         PrintsGoOn hotel = Checks.shore("r3;g");
         EDGES.due("nor is a hotel: it goes there", hotel.anew(0, 0), 0);
         goer("it goes", hotel, 0, 0, 0, 1, 0, 0);
+    }
+
+    /** Four that went begin anew one by one; where a rock is laid it counts for who stopped there alone. */
+    private static void anewOfEach() {
+        EDGES.says("a GOER begins ANEW: where it stopped, looking a way (0 .. 3), it GOES again, went nowhere");
+        int[] starts = {1, 9, 15, 22};
+        PrintsGoOn prints = Checks.shore("sw6c99;gx1;gx3y1p2;gx3y2p1;gx4y3b0p1");
+        prints.hour();
+        int[] went = {2, 11, 16, 16};
+        for (int goer = 0; goer < 4; goer++) {
+            EDGES.due("where it went", prints.goer(goer, 0), went[goer]);
+        }
+        for (int rock = 0; rock < 4; rock++) {
+            EDGES.due("a rock where " + rock + " stopped", prints.stone(starts[rock]), 1);
+            for (int goer = 0; goer < 4; goer++) {
+                int of = goer;
+                if (goer == rock) {
+                    EDGES.refused("not " + goer, prints, () -> prints.anew(of, 2), NONE);
+                } else {
+                    EDGES.due(goer + " may", prints.anew(goer, 2), starts[goer]);
+                    goer("anew", prints, goer, starts[goer], 2, goer == 1 ? 2 : 1, 0, 0);
+                    prints.undo();
+                }
+            }
+            prints.stone(starts[rock]);
+        }
+        for (int goer = 0; goer < 4; goer++) {
+            prints.anew(goer, goer);
+            goer("that one", prints, goer, starts[goer], goer, goer == 1 ? 2 : 1, 0, 0);
+            for (int other = goer + 1; other < 4; other++) {
+                EDGES.due("not the others", prints.goer(other, 0), went[other]);
+            }
+        }
+        EDGES.due("all cells are sand", prints.all(5), 24);
     }
 
     private static void coins() {

@@ -27,6 +27,7 @@ public final class EdgesOfTextsTest {
         wrongNumbers();
         tooMany();
         whatAStepTells();
+        readAgain();
         EDGES.end();
     }
 
@@ -536,5 +537,42 @@ public final class EdgesOfTextsTest {
             EDGES.due("the first that can't be in " + step, prints.run(0, 0), 0);
             EDGES.refused("doing " + step, prints, () -> prints.perform(0), 0);
         }
+    }
+
+    /** What one text told, or left half told, is not in the next one on the same object. */
+    private static void readAgain() {
+        EDGES.says("those not told are sand, ROWS likewise.");
+        PrintsGoOn prints = Checks.shore("sw6h5t5c99;r333333;r;r333333;g;g;g;gx5y4b3p4");
+        EDGES.due("a row of none behind one of six", Checks.tell(prints, SHORE, "sw2h2;r;r;g"), 4);
+        EDGES.due("one goer", prints.count(1), 1);
+        EDGES.due("sand", prints.shore(0, 0), 0);
+        Checks.type(prints, "sw6h2;r333333;g;g;g;gx9");
+        EDGES.refused("a fault", prints, () -> prints.text(SHORE), NONE);
+        EDGES.due("plain again", Checks.tell(prints, SHORE, "g"), 20);
+        int[] due = {0, 1, 1, 0, 0};
+        for (int what = 0; what < due.length; what++) {
+            EDGES.due("goer(0, " + what + ")", prints.goer(0, what), due[what]);
+        }
+        EDGES.due("no tide", prints.count(8), 0);
+        EDGES.due("coins", prints.count(7), 20);
+        EDGES.says("WORTH of a LAW: the SUM of the first CLAUSE");
+        PrintsGoOn laws = Checks.shore("gx2y2");
+        EDGES.due("a law half told", Checks.tell(laws, LAW, "y:3;y:"), NONE);
+        int[] next = {7, 13, 17, 11};
+        for (int i = 0; i < 4; i++) {
+            EDGES.due("law " + i, Checks.tell(laws, LAW, "y:" + i), i);
+        }
+        for (int i = 0; i < 4; i++) {
+            laws.law(i);
+            EDGES.due("by law " + i + " alone", laws.ahead(0), next[i]);
+        }
+        EDGES.says("EVENINGS (4 at most) are TEXTS");
+        PrintsGoOn evenings = new PrintsGoOn();
+        EDGES.due("an evening half told", Checks.tell(evenings, EVENING, "h;t3;"), NONE);
+        EDGES.due("an evening", Checks.tell(evenings, EVENING, "g12"), 0);
+        EDGES.due("another", Checks.tell(evenings, EVENING, "t5;s34"), 1);
+        EDGES.due("the first has one step", evenings.step(0, 1, 0), PrintsGoOn.HIDDEN);
+        EDGES.due("its digit", evenings.step(0, 0, 1), 1);
+        EDGES.due("the second has two", evenings.step(1, 1, 1), 34);
     }
 }

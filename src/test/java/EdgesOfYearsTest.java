@@ -178,6 +178,14 @@ public final class EdgesOfYearsTest {
         told.sweep(0);
         told.years(30, 3);
         EDGES.due("it stopped on a rock: never born", told.all(4) & 1, 1);
+        PrintsGoOn last = Checks.shore("sw6h5;r00001;gx5y4;gx5y4;gx5y4;gx4");
+        last.children(9);
+        last.sweep(4);
+        last.years(30, 3);
+        EDGES.due("the last of four, too", last.all(4) & 8, 8);
+        last.stone(4);
+        last.years(30, 3);
+        EDGES.due("once the rock is away it is born", last.goer(3, 0) != 4 || last.goer(3, 4) != 2, true);
         PrintsGoOn water = Checks.shore("r2;g");
         water.sweep(0);
         water.years(1, seed);

@@ -61,6 +61,12 @@ public final class LawTest {
         condition("b>0", true);
         condition("b>1", false);
         condition("!b=1", false);
+        condition("!b<2", false);
+        condition("!b>0", false);
+        condition("!b<1", true);
+        condition("!b>1", true);
+        condition("!(b<2|b>0)", false);
+        condition("!(b<2&b>0)", false);
         condition("!!b=1", true);
         condition("b=1&p=2", false);
         condition("b=1|p=2", true);
