@@ -18,6 +18,7 @@ public final class EdgesAheadTest {
         again();
         way();
         stones();
+        stonesFromZero();
         stonesThatDoNot();
         stonesRefused();
         seen();
@@ -372,6 +373,18 @@ public final class EdgesAheadTest {
         PrintsGoOn gone = Checks.shore("sw3h2;g;gx2y1p2;gx1p3", law);
         gone.sweep(1);
         stones(gone, 3, 2, 103);
+    }
+
+    /** One lies where nobody would look but for the other one, and the lower one is cell 0. */
+    private static void stonesFromZero() {
+        EDGES.says("100 times the lower one and the other; of one its number");
+        String law = "y:p=2?1;y:p=3?3;y:n=0&a=1?2;y:n=0?b;y:n=1?1;y:r=1?0;y:2";
+        PrintsGoOn prints = Checks.shore("sw2h3;gy1b0;gx1y1p2;gx1p3", law);
+        EDGES.due("by 0 and 1 they meet in 3", prints.meet(0, 1), 3);
+        stones(prints, 3, 2, 4);
+        prints.stone(0);
+        EDGES.due("else by 4 and 5", prints.meet(0, 1), 3);
+        stones(prints, 3, 1, 4);
     }
 
     private static void stonesThatDoNot() {
@@ -768,6 +781,9 @@ public final class EdgesAheadTest {
         PrintsGoOn gone = Checks.shore("gx1;gx2b3");
         gone.sweep(2);
         EDGES.due("one that is gone", gone.all(9), 0);
+        PrintsGoOn four = Checks.shore("sw6h5;gy4;gx3b3;gy2;gy3");
+        four.hour();
+        EDGES.due("four, none beside another", four.all(9), 0);
         PrintsGoOn out = Checks.shore("gb0;gb3");
         EDGES.due("looking out of the shore", out.all(9), 0);
     }

@@ -428,6 +428,12 @@ public final class EdgesOfTextsTest {
         EDGES.fault(SHORE, "g\t", 1);
         EDGES.fault(SHORE, "g\n", 1);
         EDGES.fault(SHORE, "g\u00a0", 1);
+        for (int sign : new int[] {1, 2, 31, 33, 127, 128, 254, 255}) {
+            EDGES.fault(SHORE, "g" + (char) sign, 1);
+            EDGES.fault(SHORE, (char) sign + "g", 0);
+            EDGES.fault(LAW, "y:1" + (char) sign, 3);
+            EDGES.fault(EVENING, "h" + (char) sign, 1);
+        }
         EDGES.fault(LAW, " y : ! ( b = 1 & a < 2 ) | r > 3 ? [ p + 10 ] * n - t / 2 ; y : 0 ", NONE);
         EDGES.fault(LAW, "y:1 0", 4);
         EDGES.fault(LAW, "y:b=1 0?1", 6);
